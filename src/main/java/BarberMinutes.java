@@ -564,14 +564,13 @@ public final class BarberMinutes {
         }
         trial.copy(now);
         chance.seed = seed;
-        int found = 0;
-        for (int week = 0; week < n; week++) {
+        for (int week = 1; week <= n; week++) {
             chance.passShavingWeek(town, trial);
             if (trial.hasEnough(town, k)) {
-                found++;
+                return granted(week);
             }
         }
-        return granted(found);
+        return granted(0);
     }
 
     private boolean lacksDraws(int seed, int n) {

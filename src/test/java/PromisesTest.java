@@ -309,7 +309,8 @@ public final class PromisesTest {
     }
 
     private void amendments() {
-        BarberMinutes x = Tape.of(SMALL + ";motion aa cuts 1 needs 0 worth 0;motion b cuts 1 needs 0 worth 0;motion c cuts 1 needs 0 worth 0;motion d cuts 1 needs 0 worth 0;"
+        BarberMinutes x = Tape.of(SMALL + ";motion aa cuts 1 needs 0 worth 0;motion b cuts 1 needs 0 worth 0;"
+            + "motion c cuts 1 needs 0 worth 0;motion d cuts 1 needs 0 worth 0;"
             + "motion e cuts 1 needs 0 worth 0;amends c aa;amends d c;amends d b;amends e b;amends e aa");
         int[] behind = {28, 24, 8, 0, 0};
         int[] depth = {1, 1, 2, 3, 2};
@@ -661,7 +662,9 @@ public final class PromisesTest {
         BarberMinutes sure = Tape.of("town grows 3 bald 0 shave 0;man a fair long 0 votes 1;"
             + "motion p cuts 7 needs 1 worth 0");
         due("46 nobody is ever shaved", sure.shaves(0, 65536, 60), 180);
-        due("47 how many of ten", sure.carries(0, 5, 10), 8);
+        due("47 behind three, first", sure.carries(0, 5, 10), 3);
+        due("47 the last of three", sure.carries(0, 5, 3), 3);
+        due("47 two are too few", sure.carries(0, 5, 2), 0);
         BarberMinutes ever = Tape.of("town grows 3 bald 0 shave 100;man a fair long 9 votes 1");
         due("46 ever shaved", ever.shaves(0, 7, 1), 0);
         refused("46 man 4", x, x.shaves(4, -1, 0), 1);
