@@ -396,7 +396,6 @@ public final class BarberMinutes {
         return needs < 0 || needs > MOST_NEEDS;
     }
 
-
     // ---- the round
 
     public int apart(int c, int other) {
@@ -564,13 +563,14 @@ public final class BarberMinutes {
         }
         trial.copy(now);
         chance.seed = seed;
-        for (int week = 1; week <= n; week++) {
+        int found = 0;
+        for (int week = 0; week < n; week++) {
             chance.passShavingWeek(town, trial);
             if (trial.hasEnough(town, k)) {
-                return granted(week);
+                found++;
             }
         }
-        return granted(0);
+        return granted(found);
     }
 
     private boolean lacksDraws(int seed, int n) {

@@ -331,7 +331,7 @@ final class PlainModel {
             case "odds" -> odds(a[0])[a[1]];
             case "mean" -> mean(a[0])[a[1]];
             case "shaves" -> shaven(a[1], a[2]).get(a[2]).hair.get(a[0]);
-            case "carries" -> Math.max(-1, first(a[2], w -> enough(shaven(a[1], a[2]).get(w + 1), a[0]))) + 1;
+            case "carries" -> shaven(a[1], a[2]).subList(1, a[2] + 1).stream().filter(s -> enough(s, a[0])).count();
             default -> act(name, a);
         };
     }

@@ -1,7 +1,5 @@
-import java.util.NoSuchElementException;
-
 /** Each promise by hand: ordinary inputs, the edges that the document names, wrong inputs with NONE and TROUBLE. */
-public final class PromisesTest {
+public final class PromisesTest extends Asking {
     private static final String HEAD = "town grows 2 bald 5 shave 50;";
     private static final String MEN = "man abe fair long 10 votes 3;man bob dark long 4 votes 2;"
         + "man cy grey long 20 votes 1;man dan fair long 7 votes 4";
@@ -10,9 +8,10 @@ public final class PromisesTest {
     private static final String TOWN = HEAD + MEN + MOTIONS + ";against cy rum;against dan pole;amends pole well;"
         + "amends rum well;quarrel abe bob;quarrel bob cy;quarrel cy abe;chair east at 0;chair west at 50;"
         + "chair north at 90;chair south at 40;heap fair 6;heap grey 3";
-    private static final String SMALL = "town grows 0 bald 0 shave 0;man a dark long 0 votes 0";
 
-    private final Check check = new Check("promises");
+    private PromisesTest() {
+        super("promises");
+    }
 
     public static void main(String[] args) {
         PromisesTest test = new PromisesTest();
@@ -45,51 +44,7 @@ public final class PromisesTest {
         test.images();
         test.ledAndSize();
         test.troubles();
-        test.check.end();
-    }
-
-    private void due(String what, long got, long want) {
-        check.same(what, got, want);
-    }
-
-    private void due(String what, boolean got, boolean want) {
-        check.same(what, got, want);
-    }
-
-    /** An answer that refuses, and its trouble. */
-    private void refused(String what, BarberMinutes x, long got, long none, int trouble) {
-        due(what, got, none);
-        due(what + " trouble", x.trouble(), trouble);
-    }
-
-    private void refused(String what, BarberMinutes x, long got, int trouble) {
-        refused(what, x, got, BarberMinutes.NONE, trouble);
-    }
-
-    private void led(String what, BarberMinutes x, int i, String want) {
-        String got;
-        try {
-            got = "" + x.led(i);
-        } catch (NoSuchElementException e) {
-            got = "none such";
-        }
-        check.same(what, got, want);
-    }
-
-    private void fault(String text, int number, int place) {
-        BarberMinutes x = new BarberMinutes();
-        refused("3 town of " + text, x, Tape.town(x, text), 4);
-        due("4 fault of " + text, x.fault(), number);
-        due("5 where of " + text, x.where(), place);
-        due("3 no town by " + text, x.size(3), 0);
-    }
-
-    private void stands(String text, int men) {
-        BarberMinutes x = new BarberMinutes();
-        due("3 town of " + text, Tape.town(x, text), men);
-        due("56 trouble of " + text, x.trouble(), 0);
-        due("4 fault of " + text, x.fault(), 0);
-        due("5 where of " + text, x.where(), -1);
+        test.end();
     }
 
     // ---- the town
@@ -662,9 +617,9 @@ public final class PromisesTest {
         BarberMinutes sure = Tape.of("town grows 3 bald 0 shave 0;man a fair long 0 votes 1;"
             + "motion p cuts 7 needs 1 worth 0");
         due("46 nobody is ever shaved", sure.shaves(0, 65536, 60), 180);
-        due("47 behind three, first", sure.carries(0, 5, 10), 3);
-        due("47 the last of three", sure.carries(0, 5, 3), 3);
-        due("47 two are too few", sure.carries(0, 5, 2), 0);
+        due("47 behind eight of ten", sure.carries(0, 5, 10), 8);
+        due("47 behind the last of three", sure.carries(0, 5, 3), 1);
+        due("47 behind none of two", sure.carries(0, 5, 2), 0);
         BarberMinutes ever = Tape.of("town grows 3 bald 0 shave 100;man a fair long 9 votes 1");
         due("46 ever shaved", ever.shaves(0, 7, 1), 0);
         refused("46 man 4", x, x.shaves(4, -1, 0), 1);
