@@ -39,6 +39,8 @@ public final class TextEdgesTest extends Asking {
         test.heapsOnce();
         test.tooMany();
         test.lastName();
+        test.namesNearlyAlike();
+        test.namesOfTwoLetters();
         test.manyAheadOfOthers();
         test.aheadOfTown();
         test.secondTown();
@@ -455,6 +457,40 @@ public final class TextEdgesTest extends Asking {
         String five = TOWN + others + some("man * fair long 0 votes 0", "m", 5);
         fault(five + ";man me fair long 0 votes 0", 3, five.length() + 5);
         fault(five + ";man ka fair long 0 votes 0", 3, five.length() + 5);
+    }
+
+    /** Names that differ by one letter, at whatever place, or by one letter more ahead or behind, are two names. */
+    private void namesNearlyAlike() {
+        for (int length = 1; length <= 8; length++) {
+            for (char letter = 'a'; letter <= 'z'; letter++) {
+                String name = ("" + letter).repeat(length);
+                for (int at = 0; at < length; at++) {
+                    char other = letter == 'z' ? 'a' : (char) (letter + 1);
+                    twoNames(name, name.substring(0, at) + other + name.substring(at + 1));
+                }
+                for (char more = 'a'; more <= 'z' && length < 8; more++) {
+                    twoNames(name, more + name);
+                    twoNames(name, name + more);
+                }
+            }
+        }
+    }
+
+    /** A letter further on doesn't make up for one ahead of it. */
+    private void namesOfTwoLetters() {
+        for (char first = 'a'; first < 'z'; first++) {
+            for (char second = 'a'; second <= 'z'; second++) {
+                for (char other = 'a'; other <= 'z'; other++) {
+                    twoNames("" + first + second, "" + (char) (first + 1) + other);
+                }
+            }
+        }
+    }
+
+    private void twoNames(String name, String other) {
+        String man = TOWN + ";man " + name + " fair long 0 votes 0";
+        stands(man + ";man " + other + " dark long 0 votes 0;quarrel " + name + " " + other, 2);
+        fault(man + ";man " + name, 3, man.length() + 5);
     }
 
     /** A LINE too many is met at its first WORD, ahead of all that is wrong further on in it. */
